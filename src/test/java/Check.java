@@ -1,5 +1,6 @@
 /** Holds answers against what is due, prints those that differ, and ends a test. */
 final class Check {
+    private static final int PRINTED_MOST = 40;
     private static int made = 0;
     private static int wrong = 0;
 
@@ -10,7 +11,9 @@ final class Check {
         made++;
         if (got != want) {
             wrong++;
-            System.out.println(what + " answered " + got + ", due is " + want);
+            if (wrong <= PRINTED_MOST) {
+                System.out.println(what + " answered " + got + ", due is " + want);
+            }
         }
     }
 
