@@ -20,6 +20,8 @@ public final class Promise06DecodeTest {
         sizes();
         addresses();
         partsOfTheWindow();
+        refusedAtOnce();
+        windowOfNoBytes();
         tooLong();
         cutAnywhere();
         refusedChangesNothing();
@@ -311,6 +313,51 @@ public final class Promise06DecodeTest {
         ill("a byte behind the window", NOTHING, Rows.delta(add(1), Rows.of(0)));
     }
 
+    /** What is wrong is not made good by what follows. */
+    private static void refusedAtOnce() {
+        int[] source = {4, 5};
+        ill("an ADD that has too few data, and a RUN that uses them", NOTHING,
+                Rows.delta(Rows.window(2, Rows.of(5), Rows.of(3, 0, 2), NOTHING)));
+        ill("a RUN without data, and a COPY in its place", source,
+                Rows.delta(Rows.window(1, 2, 0, Rows.body(2, NOTHING, Rows.of(0, 2, 19, 2), Rows.of(0)))));
+        ill("a COPY from here, and a right one", source,
+                Rows.delta(Rows.window(1, 2, 0, Rows.body(4, NOTHING, Rows.of(20, 20), Rows.of(2, 0)))));
+        ill("a COPY without address, and an ADD in its place", source,
+                Rows.delta(Rows.window(1, 2, 0, Rows.body(4, Rows.of(1, 2, 3, 4), Rows.of(20, 5), NOTHING))));
+        int[] run = Rows.body(2, Rows.of(6), Rows.of(0, 2), NOTHING);
+        ill("a segment's length beyond int, at place 1", source, Rows.delta(Rows.join(Rows.of(1), BEYOND, Rows.of(1), run)));
+        ill("a segment's place beyond int, of length 1", source, Rows.delta(Rows.join(Rows.of(1, 1), BEYOND, run)));
+        for (int k = 0; k < 3; k++) {
+            int[][] three = {Rows.of(0), Rows.of(0), Rows.of(0)};
+            three[k] = BEYOND;
+            for (int following = 7; following <= 10; following++) {
+                ill("a number of bytes beyond int in a window of no bytes", source,
+                        Rows.delta(Rows.join(Rows.of(0, following, 0, 0), Rows.join(three), Rows.of(5, 0, 0, 0, 0, 0))));
+            }
+        }
+        int[] segmented = Rows.window(1, 2, 0, Rows.body(4, NOTHING, Rows.of(20), Rows.of(0)));
+        ill("the segment of the window before is gone", source,
+                Rows.delta(segmented, Rows.window(4, NOTHING, Rows.of(20), Rows.of(0))));
+        good("a window without segment behind one that has one", source,
+                Rows.delta(segmented, Rows.window(5, Rows.of(9), Rows.of(163), Rows.of(0))), 4, 5, 4, 5, 9, 9, 9, 9, 9);
+    }
+
+    private static void windowOfNoBytes() {
+        int[] window = Rows.window(0, NOTHING, NOTHING, NOTHING);
+        for (int n = 1; n < window.length; n++) {
+            ill("a window of no bytes that is cut to " + n, NOTHING, Rows.delta(Arrays.copyOf(window, n)));
+        }
+        for (int n = 0; n < 20; n++) {
+            decode("a window of no bytes with following " + n, NOTHING, Rows.delta(Rows.of(0, n, 0, 0, 0, 0, 0)), 0,
+                    n == 5 ? 0 : ILLFORMED);
+        }
+        for (int last : new int[] {1, 2, 255}) {
+            ill("no bytes, and the byte " + last + " behind the length", NOTHING, Rows.delta(Rows.of(0, 2, 0, last)));
+            ill("no bytes, and the byte " + last + " behind the length", NOTHING, Rows.delta(Rows.of(0, 5, 0, last, 0, 0, 0)));
+        }
+        ill("no bytes, and an integer that ends too soon", NOTHING, Rows.delta(Rows.of(0, 5, 0, 0, 0, 0, 128)));
+    }
+
     private static void tooLong() {
         int[] three = Rows.delta(add(1, 2), add(3));
         for (int bound = 0; bound <= 4; bound++) {
@@ -374,6 +421,8 @@ public final class Promise06DecodeTest {
         int[] run = {0, 10, 131, 16, 0, 1, 3, 0, 5, 0, 131, 16};
         good("a run of 400", NOTHING, Rows.delta(run), fill(5, 400));
         decode("400 and one more", NOTHING, Rows.delta(run, add(1)), 400, TOOLONG);
+        ill("a run of 399 and an ADD of 2 in a window of 400", NOTHING,
+                Rows.delta(Rows.of(0, 13, 131, 16, 0, 3, 4, 0, 5, 6, 7, 0, 131, 15, 3)));
         decode("400 where 399 are allowed", NOTHING, Rows.delta(run), 399, TOOLONG);
     }
 }
