@@ -1,15 +1,18 @@
 /** Promise 1: all rows of a new object are empty. */
 public final class Promise01NewObjectTest {
+    private static final String WHERE = "Promise 1";
+
     public static void main(String[] args) {
-        DeltaWindows x = new DeltaWindows();
-        for (int row = 0; row < 4; row++) {
-            Check.row("new", x, row);
-            Check.due("new: byteAt(" + row + ", 0)", x.byteAt(row, 0), DeltaWindows.BAD);
-        }
-        Check.due("new: windows()", x.windows(), 0);
-        Check.due("new: agrees()", x.agrees(), true);
-        objectsShareNothing();
+        Check.sentence(WHERE, "All rows are empty.", Promise01NewObjectTest::rowsAreEmpty);
+        Check.sentence(WHERE, "A new object", Promise01NewObjectTest::objectsShareNothing);
+        Check.sentence(WHERE, "DeltaWindows()", Promise01NewObjectTest::firstCalls);
         Check.end();
+    }
+
+    private static void rowsAreEmpty() {
+        for (int row = 0; row < 4; row++) {
+            Stories.fresh().row(row).due(Call.byteAt(row, -1), DeltaWindows.BAD);
+        }
     }
 
     private static void objectsShareNothing() {
@@ -30,5 +33,21 @@ public final class Promise01NewObjectTest {
         }
         Check.due("two: windows()", two.windows(), 0);
         Check.row("one", one, Rows.SOURCE, Rows.text("xabcdef"));
+    }
+
+    /** Each call as the first one, on empty rows. */
+    private static void firstCalls() {
+        Stories.fresh()
+                .due(Call.agrees(), true)
+                .due(Call.windows(), 0)
+                .due(Call.encode(1), 5)
+                .due(Call.encode(64), 5)
+                .due(Call.cut(0, 0), true)
+                .refuses(Call.cut(0, 1))
+                .refuses(Call.set(1, 0, 0))
+                .refuses(Call.decode(0), DeltaWindows.ILLFORMED)
+                .refuses(Call.decode(400), DeltaWindows.ILLFORMED)
+                .caches(0, new int[4])
+                .caches(1, new int[4]);
     }
 }

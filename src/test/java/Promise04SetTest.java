@@ -1,37 +1,69 @@
 /** Promise 4: byte i of row 0, 1 or 2 becomes b. */
 public final class Promise04SetTest {
+    private static final String WHERE = "Promise 4";
+
     public static void main(String[] args) {
-        DeltaWindows x = new DeltaWindows();
-        for (int row = 0; row < 3; row++) {
-            Check.due("an empty row has no byte 0", x.set(row, 0, 1), false);
-            Rows.fill(x, row, 1, 2, 3);
-            Check.due("the first", x.set(row, 0, 255), true);
-            Check.due("the last", x.set(row, 2, 0), true);
-            Check.row("set", x, row, 255, 2, 0);
-            for (int i : new int[] {-1, 3, 47, Integer.MIN_VALUE, Integer.MAX_VALUE}) {
-                Check.due("set(" + row + ", " + i + ", 1)", x.set(row, i, 1), false);
-            }
-            for (int b : new int[] {-1, 256, Integer.MIN_VALUE, Integer.MAX_VALUE}) {
-                Check.due("set(" + row + ", 1, " + b + ")", x.set(row, 1, b), false);
-            }
-            Check.row("after refused sets", x, row, 255, 2, 0);
-            Check.due("cut(" + row + ", 2)", x.cut(row, 2), true);
-            Check.due("a byte that was cut", x.set(row, 2, 1), false);
-            Check.due("set(" + row + ", 1, ..)", x.set(row, 1, 40 + row), true);
-        }
-        for (int row = 0; row < 3; row++) {
-            Check.row("the other rows are left alone", x, row, 255, 40 + row);
-        }
-        output();
+        Check.sentence(WHERE, "Byte i of row 0, 1 or 2 becomes b.", Promise04SetTest::becomes);
+        Check.sentence(WHERE, "False when row is another", Promise04SetTest::anotherRow);
+        Check.sentence(WHERE, "it has no byte i", Promise04SetTest::noSuchByte);
+        Check.sentence(WHERE, "or b is not 0 .. 255", Promise04SetTest::bytes);
         Check.end();
     }
 
-    private static void output() {
-        DeltaWindows x = Rows.with(Rows.of(), Rows.delta(Rows.window(2, Rows.of(7), Rows.of(0, 2), Rows.of())));
-        Check.due("decode(2)", x.decode(2), 2);
-        for (int row : new int[] {3, -1, 4, Integer.MIN_VALUE, Integer.MAX_VALUE}) {
-            Check.due("set(" + row + ", 0, 1)", x.set(row, 0, 1), false);
+    private static void becomes() {
+        for (int row = 0; row < 3; row++) {
+            for (int i = 0; i < 3; i++) {
+                Story story = new Story("byte " + i).put(0, 1, 2, 3).put(1, 1, 2, 3).put(2, 1, 2, 3);
+                story.then(Call.set(row, i, 77), true);
+                for (int other = 0; other < 3; other++) {
+                    int[] due = {1, 2, 3};
+                    due[i] = other == row ? 77 : due[i];
+                    story.row(other, due);
+                }
+            }
         }
-        Check.row("output", x, 3, 7, 7);
+        Stories.full().then(Call.set(2, 999, 1), true).then(Call.set(0, 47, 2), true).then(Call.set(1, 63, 3), true)
+                .due(Call.byteAt(2, 999), 1).due(Call.byteAt(0, 47), 2).due(Call.byteAt(1, 63), 3);
+        Stories.agreeing().then(Call.set(1, 0, 'q'), true).due(Call.byteAt(3, 0), 'c').due(Call.agrees(), false);
+    }
+
+    private static void anotherRow() {
+        for (Story story : Stories.all()) {
+            for (int row : new int[] {3, 4, -1, Integer.MIN_VALUE, Integer.MAX_VALUE}) {
+                story.refuses(Call.set(row, 0, 1));
+            }
+        }
+        for (int row = 0; row < 3; row++) {
+            Stories.agreeing().due(Call.set(row, 0, 1), true);
+        }
+    }
+
+    private static void noSuchByte() {
+        int[][] lengths = Stories.lengths();
+        for (int k = 0; k < 4; k++) {
+            Story story = Stories.all().get(k);
+            for (int row = 0; row < 3; row++) {
+                int has = lengths[k][row];
+                for (int i : new int[] {has, has + 1, -1, Integer.MIN_VALUE, Integer.MAX_VALUE}) {
+                    story.refuses(Call.set(row, i, 1));
+                }
+                if (has > 0) {
+                    story.due(Call.set(row, has - 1, 1), true).due(Call.set(row, 0, 1), true);
+                }
+            }
+        }
+        new Story("a byte that was cut").put(0, 1, 2, 3).then(Call.cut(0, 2), true).refuses(Call.set(0, 2, 9)).row(0, 1, 2);
+    }
+
+    private static void bytes() {
+        for (int row = 0; row < 3; row++) {
+            Stories.agreeing().then(Call.set(row, 1, 0), true).due(Call.byteAt(row, 1), 0);
+            Stories.agreeing().then(Call.set(row, 1, 255), true).due(Call.byteAt(row, 1), 255);
+            for (Story story : Stories.all()) {
+                for (int b : new int[] {-1, 256, -128, Integer.MIN_VALUE, Integer.MAX_VALUE}) {
+                    story.refuses(Call.set(row, 0, b));
+                }
+            }
+        }
     }
 }

@@ -1,125 +1,122 @@
 /** Promise 10: the caches at the end of the last window, of the encoder and of the decoder. */
 public final class Promise10CacheTest {
-    private static final int[] NOTHING = {};
+    private static final String WHERE = "Promise 10";
+    private static final int BAD = DeltaWindows.BAD;
+    private static final int[] ZEROS = new int[4];
 
     public static void main(String[] args) {
-        before();
-        wrongArguments();
-        encodeSide();
-        decodeSide();
-        lastWindowOnly();
-        farAddresses();
+        Check.sentence(WHERE, "0 before", Promise10CacheTest::before);
+        Check.sentence(WHERE, "at the end of the last window of the latest encode (side 0)", Promise10CacheTest::encodeSide);
+        Check.sentence(WHERE, "or of the latest decode that was not refused (side 1)", Promise10CacheTest::decodeSide);
+        Check.sentence(WHERE, "the last window", Promise10CacheTest::lastWindowOnly);
+        Check.sentence(WHERE, "for i = 0 .. 3 NEAR i, for i = 4 .. 771 SAME(i - 4)", Promise10CacheTest::places);
+        Check.sentence(WHERE, "(A delta without windows leaves all 0.)", Promise10CacheTest::withoutWindows);
+        Check.sentence(WHERE, "BAD when side is not 0 or 1", Promise10CacheTest::wrongSide);
+        Check.sentence(WHERE, "or i is another", Promise10CacheTest::wrongPlace);
         Check.end();
     }
 
-    /** Looks at all places of a side: NEAR, and then pairs of a place in SAME and what is there; the rest is 0. */
-    private static void caches(String what, DeltaWindows x, int side, int[] near, int... same) {
-        for (int i = 0; i < 4; i++) {
-            Check.due(what + ": cache(" + side + ", " + i + ")", x.cache(side, i), near[i]);
-        }
-        int[] due = new int[768];
-        for (int k = 0; k < same.length; k += 2) {
-            due[same[k]] = same[k + 1];
-        }
-        // All 768 places would be more calls than an object is used for.
-        for (int i = 0; i < 60; i++) {
-            Check.due(what + ": cache(" + side + ", " + (4 + i) + ")", x.cache(side, 4 + i), due[i]);
-        }
-        for (int i : new int[] {127, 128, 255, 256, 257, 383, 384, 511, 512, 766, 767}) {
-            Check.due(what + ": cache(" + side + ", " + (4 + i) + ")", x.cache(side, 4 + i), due[i]);
-        }
-    }
-
     private static void before() {
-        DeltaWindows x = new DeltaWindows();
-        caches("before", x, 0, new int[4]);
-        caches("before", x, 1, new int[4]);
+        Stories.fresh().caches(0, ZEROS).caches(1, ZEROS);
+        Stories.full().caches(0, ZEROS);
+        new Story("refused before").put(2, 1).then(Call.decode(1), DeltaWindows.ILLFORMED).then(Call.encode(0), BAD)
+                .caches(0, ZEROS).caches(1, ZEROS);
     }
 
-    private static void wrongArguments() {
-        DeltaWindows x = new DeltaWindows();
-        for (int side : new int[] {-1, 2, Integer.MIN_VALUE, Integer.MAX_VALUE}) {
-            Check.due("cache(" + side + ", 0)", x.cache(side, 0), DeltaWindows.BAD);
-        }
-        for (int i : new int[] {-1, 772, Integer.MIN_VALUE, Integer.MAX_VALUE}) {
-            Check.due("cache(0, " + i + ")", x.cache(0, i), DeltaWindows.BAD);
-            Check.due("cache(1, " + i + ")", x.cache(1, i), DeltaWindows.BAD);
-        }
-        Check.due("cache(0, 771)", x.cache(0, 771), 0);
-        Check.due("cache(1, 771)", x.cache(1, 771), 0);
-    }
-
-    private static void encodeSide() {
-        DeltaWindows x = new DeltaWindows();
-        int[] source = new int[48];
-        for (int i = 0; i < 48; i++) {
-            source[i] = 100 + i;
-        }
-        Rows.fill(x, Rows.SOURCE, source);
-        Rows.fill(x, Rows.TARGET, Rows.join(up(103), up(110), up(101), up(120), up(140), up(110)));
-        Check.due("encode(64)", x.encode(64), 5 + 3 + 1 + 5 + 6 + 6);
-        caches("six copies", x, 0, Rows.of(40, 10, 1, 20), 3, 3, 10, 10, 1, 1, 20, 20, 40, 40);
-        caches("not decoded yet", x, 1, new int[4]);
-        Check.due("a bad encode", x.encode(0), DeltaWindows.BAD);
-        Check.due("it leaves the caches", x.cache(0, 0), 40);
-        Check.due("cut", x.cut(Rows.TARGET, 0), true);
-        Check.due("they are as they were at the encode", x.cache(0, 0), 40);
-        Check.due("encode(64)", x.encode(64), 5);
-        caches("a delta without windows", x, 0, new int[4]);
-    }
-
-    private static void decodeSide() {
-        int[] source = {1, 2, 3, 4, 5, 6, 7, 8};
-        int[] codes = {20, 20, 52, 36, 20};
-        int[] addresses = {3, 5, 4, 2, 6};
-        DeltaWindows x = Rows.with(source, Rows.delta(Rows.window(1, 8, 0, Rows.body(20, NOTHING, codes, addresses))));
-        Check.due("decode(20)", x.decode(20), 20);
-        // The fourth address is 2 before here, which is 8 + 12.
-        caches("five copies", x, 1, Rows.of(6, 5, 7, 18), 3, 3, 5, 5, 7, 7, 18, 18, 6, 6);
-        caches("nothing was encoded", x, 0, new int[4]);
-        Check.due("too long", x.decode(19), DeltaWindows.TOOLONG);
-        Check.due("left alone: cache(1, 0)", x.cache(1, 0), 6);
-        Check.due("put", x.put(Rows.DELTA, 0, 1), true);
-        Check.due("ill formed", x.decode(20), DeltaWindows.ILLFORMED);
-        Check.due("left alone: cache(1, 3)", x.cache(1, 3), 18);
-        Check.due("left alone: cache(1, 22)", x.cache(1, 22), 18);
-        Check.due("bad", x.decode(401), DeltaWindows.BAD);
-        Check.due("left alone: cache(1, 1)", x.cache(1, 1), 5);
-        Check.due("cut", x.cut(Rows.DELTA, 5), true);
-        Check.due("decode(0)", x.decode(0), 0);
-        caches("a delta without windows", x, 1, new int[4]);
-    }
-
-    private static void lastWindowOnly() {
-        DeltaWindows x = new DeltaWindows();
-        Rows.fill(x, Rows.SOURCE, Rows.text("-abcdefgh"));
-        Rows.fill(x, Rows.TARGET, Rows.text("abcdefghcdef"));
-        Check.due("encode(8)", x.encode(8), 5 + 2 * (3 + 1 + 5 + 2));
-        caches("the last window's", x, 0, Rows.of(3, 0, 0, 0), 3, 3);
-        Check.due("decode(12)", x.decode(12), 12);
-        caches("the last window's", x, 1, Rows.of(3, 0, 0, 0), 3, 3);
-        Check.due("set", x.set(Rows.TARGET, 9, 0), true);
-        Check.due("encode(8)", x.encode(8), 5 + 3 + 1 + 5 + 2 + 3 + 1 + 5 + 5);
-        caches("the last window has no copy", x, 0, new int[4]);
-        Check.due("the decoder's is the latest decode's", x.cache(1, 0), 3);
-        Check.due("decode(12)", x.decode(12), 12);
-        caches("the last window has no copy", x, 1, new int[4]);
-    }
-
-    /** Addresses beyond 255: a RUN of 400 - 4, and COPYs of 1 behind it. */
-    private static void farAddresses() {
-        int[] data = {9};
-        int[] codes = {0, 131, 12, 19, 1, 19, 1, 35, 1, 35, 1};
-        int[] addresses = {130, 0, 130, 1, 12, 129, 15};
-        int following = 2 + 1 + 3 + data.length + codes.length + addresses.length;
-        int[] head = {0, following, 131, 16, 0, data.length, codes.length, addresses.length};
-        DeltaWindows x = Rows.with(NOTHING, Rows.delta(Rows.join(head, data, codes, addresses)));
-        Check.due("decode(400)", x.decode(400), 400);
-        caches("far addresses", x, 1, Rows.of(256, 257, 386, 256), 256, 256, 257, 257, 386, 386);
-        Check.due("cache(1, 390)", x.cache(1, 390), 386);
+    private static Story sixCopies() {
+        return new Story("six copies")
+                .put(0, Rows.up(100, 48))
+                .put(1, Rows.join(up(103), up(110), up(101), up(120), up(140), up(110)))
+                .then(Call.encode(64), 5 + 3 + 1 + 5 + 6 + 6);
     }
 
     private static int[] up(int from) {
-        return Rows.of(from, from + 1, from + 2, from + 3);
+        return Rows.up(from, 4);
+    }
+
+    private static void encodeSide() {
+        int[] near = {40, 10, 1, 20};
+        int[] same = {3, 3, 10, 10, 1, 1, 20, 20, 40, 40};
+        sixCopies().caches(0, near, same).caches(1, ZEROS);
+        Story later = sixCopies().then(Call.encode(0), BAD).then(Call.encode(65), BAD).then(Call.cut(0, 0), true)
+                .then(Call.cut(1, 0), true).then(Call.cut(2, 5), true).then(Call.decode(0), 0);
+        later.caches(0, near, same);
+        later.put(0, Rows.text("-abcd")).put(1, Rows.text("abcd")).then(Call.encode(64), 16).caches(0, Rows.of(1, 0, 0, 0), 1, 1);
+    }
+
+    private static Story fiveCopies() {
+        int[] codes = {20, 20, 52, 36, 20};
+        int[] addresses = {3, 5, 4, 2, 6};
+        return new Story("five copies")
+                .put(0, 1, 2, 3, 4, 5, 6, 7, 8)
+                .put(2, Rows.delta(new Window(20).from(1, 8, 0).codes(codes).addresses(addresses).bytes()))
+                .then(Call.decode(20), 20);
+    }
+
+    private static void decodeSide() {
+        // The fourth address is 2 before here, which is 8 + 12.
+        int[] near = {6, 5, 7, 18};
+        int[] same = {3, 3, 5, 5, 7, 7, 18, 18, 6, 6};
+        fiveCopies().caches(1, near, same).caches(0, ZEROS);
+        Story later = fiveCopies()
+                .then(Call.decode(19), DeltaWindows.TOOLONG)
+                .then(Call.decode(401), BAD)
+                .then(Call.put(2, 3, 1), true)
+                .then(Call.decode(20), DeltaWindows.ILLFORMED)
+                .then(Call.encode(64), 5);
+        later.caches(1, near, same);
+        later.fill(2, Rows.delta(new Window(1).from(1, 8, 0).codes(19, 1).addresses(7).bytes())).then(Call.decode(1), 1)
+                .caches(1, Rows.of(7, 0, 0, 0), 7, 7);
+    }
+
+    private static void lastWindowOnly() {
+        Story story = new Story("two windows with copies")
+                .put(0, Rows.text("-abcdefgh")).put(1, Rows.text("abcdefghcdef"))
+                .then(Call.encode(8), 5 + 2 * (3 + 1 + 5 + 2))
+                .then(Call.decode(12), 12);
+        story.caches(0, Rows.of(3, 0, 0, 0), 3, 3).caches(1, Rows.of(3, 0, 0, 0), 3, 3);
+        story.then(Call.set(1, 9, 0), true).then(Call.encode(8), 5 + 3 + 1 + 5 + 2 + 3 + 1 + 5 + 5);
+        story.caches(0, ZEROS).caches(1, Rows.of(3, 0, 0, 0), 3, 3);
+        story.then(Call.decode(12), 12).caches(1, ZEROS);
+    }
+
+    /** All four NEAR, SAME(0), and the greatest address there can be: one byte is left of 400 behind a segment of 48. */
+    private static void places() {
+        int[] codes = {0, 131, 12, 19, 1, 19, 1, 35, 1, 19, 1};
+        int[] addresses = {131, 59, 0, 1, 131, 62};
+        Story far = new Story("far addresses")
+                .put(0, Rows.same(5, 48))
+                .put(2, Rows.delta(new Window(400).from(1, 48, 0).data(9).codes(codes).addresses(addresses).bytes()))
+                .then(Call.decode(400), 400);
+        far.caches(1, Rows.of(443, 0, 445, 446), 443, 443, 445, 445, 446, 446);
+        far.due(Call.cache(1, 0), 443).due(Call.cache(1, 3), 446).due(Call.cache(1, 4), 0);
+        far.due(Call.cache(1, 450), 446).due(Call.cache(1, 771), 0);
+    }
+
+    private static void withoutWindows() {
+        Story encoded = sixCopies().then(Call.decode(64), 24).then(Call.cut(1, 0), true).then(Call.encode(64), 5);
+        encoded.caches(0, ZEROS).due(Call.cache(1, 0), 40);
+        encoded.then(Call.decode(0), 0).caches(1, ZEROS);
+        Story window = fiveCopies().fill(2, Rows.delta(new Window(0).bytes())).then(Call.decode(0), 0);
+        window.caches(1, ZEROS);
+    }
+
+    private static void wrongSide() {
+        for (Story story : Stories.all()) {
+            for (int side : new int[] {-1, 2, Integer.MIN_VALUE, Integer.MAX_VALUE}) {
+                story.refuses(Call.cache(side, 0), BAD).refuses(Call.cache(side, 771), BAD);
+            }
+        }
+    }
+
+    private static void wrongPlace() {
+        for (Story story : Stories.all()) {
+            for (int i : new int[] {-1, 772, Integer.MIN_VALUE, Integer.MAX_VALUE}) {
+                story.refuses(Call.cache(0, i), BAD).refuses(Call.cache(1, i), BAD);
+            }
+            for (int side = 0; side < 2; side++) {
+                story.due(Call.cache(side, 771), 0);
+            }
+        }
     }
 }

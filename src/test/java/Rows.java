@@ -29,6 +29,22 @@ final class Rows {
         return bytes;
     }
 
+    /** n times the byte. */
+    static int[] same(int b, int n) {
+        int[] bytes = new int[n];
+        Arrays.fill(bytes, b);
+        return bytes;
+    }
+
+    /** n bytes, each one more than the one before. */
+    static int[] up(int from, int n) {
+        int[] bytes = new int[n];
+        for (int i = 0; i < n; i++) {
+            bytes[i] = from + i;
+        }
+        return bytes;
+    }
+
     /** Empties the row and puts the bytes, equal ones that stand side by side in one call. */
     static void fill(DeltaWindows x, int row, int... bytes) {
         Check.due("cut(" + row + ", 0)", x.cut(row, 0), true);
