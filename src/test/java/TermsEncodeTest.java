@@ -104,8 +104,8 @@ public final class TermsEncodeTest {
         one("of bytes that it appends", NOTHING, Rows.text("abababab"), Rows.text("ab"), Rows.of(3, 118), Rows.of(0));
         one("from the byte before the last", Rows.text("zab"), Rows.text("abababa"), NOTHING, Rows.of(19 + 4), Rows.of(1));
         one("from the window itself", Rows.text("z"), Rows.text("abcdeabcde"), Rows.text("abcde"), Rows.of(6, 21), Rows.of(1));
-        one("62 of bytes that it appends", NOTHING, Rows.join(Rows.text("abababababababababababababababab"), Rows.text("abababababababababababababababab")),
-                Rows.text("ab"), Rows.of(3, 115, 62), Rows.of(0));
+        int[] half = Rows.text("abababababababababababababababab");
+        one("62 of bytes that it appends", NOTHING, Rows.join(half, half), Rows.text("ab"), Rows.of(3, 115, 62), Rows.of(0));
     }
 
     private static void copyEndsWithThePiece() {

@@ -443,6 +443,9 @@ public final class TermsIllFormedTest {
         either("a COPY from here, and a right one", false, source, segmented(4).codes(20, 20).addresses(2, 0), NOTHING);
         either("a COPY without address, and an ADD in its place", false, source, segmented(4).data(1, 2, 3, 4).codes(20, 5), NOTHING);
         either("too many by an ADD, and the right number by another", false, source, new Window(1).data(5).codes(3, 2), NOTHING);
+        either("ADD, then COPY from here, and a right one", false, source, new Window(5).data(9).codes(163, 20).addresses(1, 0), NOTHING);
+        either("COPY, then ADD without data, and a COPY in its place", false, source, segmented(5).codes(247, 19, 1).addresses(0, 0), NOTHING);
+        either("COPY, then ADD that is too much, and nothing else", false, source, segmented(4).codes(247).addresses(0), NOTHING);
         Window segment = segmented(4).codes(20).addresses(0);
         Decoding.ill("the segment of the window before is gone", source,
                 Rows.delta(segment.bytes(), new Window(4).codes(20).addresses(0).bytes()));

@@ -18,6 +18,7 @@ public final class TermsIntegersTest {
         Check.sentence(WHERE, "it may have more bytes 128 in front", TermsIntegersTest::moreInFront);
         Check.sentence(WHERE, "but no more than five bytes in all", TermsIntegersTest::noMoreThanFive);
         Check.sentence(WHERE, "and it must not be greater than 2147483647", TermsIntegersTest::notGreater);
+        Check.sentence("Terms, to decode", "an integer is not as said", TermsIntegersTest::illFormed);
         Check.end();
     }
 
@@ -39,8 +40,12 @@ public final class TermsIntegersTest {
         }
     }
 
-    /** A delta in which an integer stands in all places where one can; the one in this place is written otherwise. */
     private static int[] delta(int place, LongFunction<int[]> otherwise) {
+        return Rows.delta(window(place, otherwise));
+    }
+
+    /** A window in which an integer stands in all places where one can; the one in this place is written otherwise. */
+    private static int[] window(int place, LongFunction<int[]> otherwise) {
         Writer w = new Writer(place, otherwise);
         Window window = new Window(OUTPUT.length).from(1, 6, 2);
         window.with(Window.SEGMENT_SIZE, w.next(6)).with(Window.SEGMENT_PLACE, w.next(2));
@@ -64,17 +69,18 @@ public final class TermsIntegersTest {
             window.with(Window.FOLLOWING, otherwise.apply(window.following()));
         }
         Check.due("places of integers", w.written, PLACES);
-        return Rows.delta(window.bytes());
+        return window.bytes();
     }
 
-    private static int[] run(long length) {
+    /** A delta that ends behind this length. */
+    private static int[] begun(long length) {
         return Rows.delta(Rows.join(Rows.of(0), Window.integer(9), Window.integer(length)));
     }
 
     private static void leastAndGreatest() {
         Decoding.good("length 0", Rows.of(), Rows.delta(new Window(0).bytes()));
-        Decoding.tooLong("length 2147483647", Rows.of(), run(MOST), 400);
-        Decoding.ill("length 2147483648", Rows.of(), run(MOST + 1));
+        Decoding.tooLong("length 2147483647", Rows.of(), begun(MOST), 400);
+        Decoding.ill("length 2147483648", Rows.of(), begun(MOST + 1));
         Decoding.tooLong("2147483647 following bytes, and a length of 1", Rows.of(),
                 Rows.delta(Rows.join(Rows.of(0), Window.integer(MOST), Rows.of(1))), 0);
         Decoding.ill("2147483648 following bytes, and a length of 1", Rows.of(),
@@ -95,7 +101,7 @@ public final class TermsIntegersTest {
         int[] sizes = {1, 2, 2, 3, 3, 4, 4, 5, 5};
         for (int k = 0; k < edges.length; k++) {
             Check.due("bytes of " + edges[k], Window.integer(edges[k]).length, sizes[k]);
-            Decoding.tooLong("length " + edges[k], Rows.of(), run(edges[k]), (int) Math.min(400, edges[k] - 1));
+            Decoding.tooLong("length " + edges[k], Rows.of(), begun(edges[k]), (int) Math.min(400, edges[k] - 1));
         }
         Decoding.ill("five bytes 127 and over", Rows.of(), Rows.delta(Rows.of(0, 9, 255, 255, 255, 255, 127)));
     }
@@ -181,7 +187,26 @@ public final class TermsIntegersTest {
             }
             Decoding.ill("2 to the 35 less 1 in place " + place, SOURCE, delta(place, value -> Rows.of(255, 255, 255, 255, 127)));
         }
+        for (int number = Window.DATA_SIZE; number <= Window.ADDRESSES_SIZE; number++) {
+            for (int following = 0; following < 24; following++) {
+                Window none = new Window(0).with(number, Window.integer(MOST + 1)).with(Window.FOLLOWING, following);
+                Decoding.ill("a number of bytes beyond int, whatever follows", Rows.of(), Rows.delta(none.bytes(), Rows.of(5, 0, 0, 0, 0, 0)));
+            }
+        }
         Decoding.tooLong("2147483647 in five bytes", Rows.of(), Rows.delta(Rows.of(0, 9, 135, 255, 255, 255, 127)), 400);
         Decoding.ill("2147483648 in five bytes", Rows.of(), Rows.delta(Rows.of(0, 9, 136, 128, 128, 128, 0)));
+    }
+
+    /** In a second window too. */
+    private static void illFormed() {
+        int[] first = new Window(2).data(8, 9).codes(3).bytes();
+        for (int place = 0; place < PLACES; place++) {
+            int[] six = window(place, value -> Window.integer(value, 6));
+            int[] beyond = window(place, value -> Window.integer(value + MOST + 1));
+            int[] right = window(place, value -> Window.integer(value, 3));
+            Decoding.ill("six bytes in place " + place, SOURCE, Rows.delta(first, six));
+            Decoding.ill("beyond int in place " + place, SOURCE, Rows.delta(first, beyond));
+            Decoding.good("three bytes in place " + place, SOURCE, Rows.delta(first, right), Rows.join(Rows.of(8, 9), OUTPUT));
+        }
     }
 }
