@@ -42,7 +42,9 @@ public final class FaceTest {
         Check.due("the class is public and final",
                 Modifier.isPublic(DeltaWindows.class.getModifiers()) && Modifier.isFinal(DeltaWindows.class.getModifiers()), true);
         for (Class<?> c : DeltaWindows.class.getDeclaredClasses()) {
-            Check.due("static: " + c.getName(), Modifier.isStatic(c.getModifiers()), true);
+            int how = c.getModifiers();
+            Check.due("static: " + c.getName(), Modifier.isStatic(how), true);
+            Check.due("private or package-visible: " + c.getName(), Modifier.isPublic(how) || Modifier.isProtected(how), false);
         }
         Check.due("BAD", DeltaWindows.BAD, -1);
         Check.due("ILLFORMED", DeltaWindows.ILLFORMED, -2);

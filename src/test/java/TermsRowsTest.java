@@ -14,7 +14,6 @@ public final class TermsRowsTest {
         Check.sentence(WHERE, "Bytes are 0 .. 255.", TermsRowsTest::bytes);
         Check.sentence("Terms, the last line", "A call that answers false or less than 0 changes nothing.", TermsRowsTest::refused);
         Check.sentence("Terms, the last line", "There is no row but 0 .. 3.", TermsRowsTest::noOtherRow);
-        Check.sentence("What it is", "An object is used for at most 512 calls after it has been made", TermsRowsTest::lastCall);
         Check.end();
     }
 
@@ -109,18 +108,5 @@ public final class TermsRowsTest {
         for (int row = 0; row < 4; row++) {
             Stories.full().due(Call.length(row), Stories.lengths()[3][row]);
         }
-    }
-
-    /** The 512th call is still answered as the first one. */
-    private static void lastCall() {
-        Story story = new Story("511 calls before").put(0, Rows.text("-abcd")).put(1, Rows.text("abcd"));
-        while (story.left() > 3) {
-            story.then(Call.put(1, 'z', 1), true).then(Call.cut(1, 4), true);
-        }
-        while (story.left() > 1) {
-            story.then(Call.encode(64), 16);
-        }
-        story.due(Call.encode(64), 16).due(Call.decode(4), 4).due(Call.cache(0, 0), 1).due(Call.put(0, 1, 16), true);
-        story.due(Call.put(0, 1, 17), false).due(Call.byteAt(2, 15), 1).due(Call.agrees(), false);
     }
 }
